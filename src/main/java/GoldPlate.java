@@ -636,8 +636,8 @@ public final class GoldPlate {
 
         int priceBy(Sums sums) {
             for (int i = 0; i < prices; i++) {
-                boolean bare = priceWhen[i] == priceTo[i];
-                if (bare || sums.work(code, priceWhen[i], priceTo[i]) != 0) {
+                boolean always = priceWhen[i] == priceTo[i];
+                if (always || sums.work(code, priceWhen[i], priceTo[i]) != 0) {
                     int price = sums.work(code, priceFrom[i], priceWhen[i]);
                     return Math.max(0, Math.min(DEAREST, price));
                 }

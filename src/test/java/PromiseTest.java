@@ -19,6 +19,7 @@ public final class PromiseTest {
         feedAndEnd();
         mind();
         faults();
+        longTexts();
         openBrackets();
         textsAreWorked();
         readings();
@@ -283,7 +284,13 @@ public final class PromiseTest {
         fault("7", 1, 0);
         fault("senses 1;", 1, 0);
         fault("Sense 1;", 1, 0);
-        fault("senseX 1;", 1, 0);
+        for (String letter : new String[] {"A", "X", "Z", "a", "z"}) {
+            fault("sense" + letter + " 1;", 1, 0);
+            fault("sense 1" + letter + ";", 1, 7);
+        }
+        for (String sign : new String[] {"@", "[", "`", "{", ":", "/", "\0", "_"}) {
+            fault("sense" + sign + " 1;", 1, 5);
+        }
         fault("sense\t1;", 1, 5);
         fault("sense 1;\r", 1, 8);
         fault("sense 1;" + (char) 233, 1, 8);
@@ -311,6 +318,22 @@ public final class PromiseTest {
         fault("know 1;".repeat(16) + "know 8;", 3, 112);
         fault("know 1;".repeat(16) + "when", 1, 112);
         fault("know 1;".repeat(15) + "twin 0;twin 0;", 3, 112);
+    }
+
+    /** Five hundred bytes, and nearly as many TOKENS. */
+    private static void longTexts() {
+        GoldPlate x = plain(1);
+        x.put(0);
+        String sum = "price 1" + "+1".repeat(246) + ";";
+        due.is("500 bytes", sum.length(), 500);
+        due.is("a long sum", Due.mind(x, 0, sum), 1);
+        due.is("is worked", x.cheapest(0, 0), 247);
+        due.is("many claims", Due.mind(x, 0, "price 7 when 1=1" + " and 1=1".repeat(60) + ";"), 1);
+        due.is("all so", x.cheapest(0, 0), 7);
+        due.is("many claims", Due.mind(x, 0, "price 7 when 1=2" + " or 1=2".repeat(60) + " or 1=1;"), 1);
+        due.is("the last so", x.cheapest(0, 0), 7);
+        fault(";".repeat(500), 1, 0);
+        fault("price " + "1+".repeat(247), 1, 500);
     }
 
     private static void openBrackets() {
@@ -345,6 +368,9 @@ public final class PromiseTest {
         due.is("cut below", bare("price 3-5;"), 0);
         due.is("wraps", bare("price 7 when 9999*9999*9999*9999<0;price 8;"), 9999 * 9999 * 9999 * 9999 < 0 ? 7 : 8);
         due.is("first that is so", bare("price 1 when 1=2;price 2 when 1<2;price 3;"), 2);
+        due.is("not below", bare("price 1 when 2<2;price 2;"), 2);
+        due.is("not so", bare("price 1 when not 1=1;price 2;"), 2);
+        due.is("a value of its own", bare("price 3 when (1=1 or 1=1) and (1<2 or 2>1);"), 3);
         due.is("above", bare("price 1 when 2>1;"), 1);
         due.is("not above", bare("price 1 when 2>2;price 2;"), 2);
         due.is("none is so", bare("price 5 when 1=2;"), 0);
@@ -459,13 +485,21 @@ public final class PromiseTest {
         x.tell(1, 3, 3);
         due.is("twice as the second other", x.cheapest(0, 0), 54);
         due.is("taken for the second other", x.cheapest(0, 11), 3);
-        Due.mind(x, 1, "price worn*10+left when bare=1;price 999;");
+        Due.mind(x, 1, "price worn*10+place*worn*3+left when bare=1;price 999;");
         x.year(26);
         due.is("left of both", x.cheapest(1, 0), 22 + 10 + 74);
         x.year(60);
-        due.is("gone is not worn and has 0 left", x.cheapest(1, 0), 40 + 10);
+        due.is("gone is not worn and has 0 left", x.cheapest(1, 0), 40 + 13);
+        x.year(0);
+        x.mark(0, 0, 1, 1, 0);
+        x.put(NONE);
+        x.put(2);
+        Due.mind(x, 2, "price 50 when bare=1;price 9-twice*9;");
+        due.is("nothing is ahead of thing 0", x.cheapest(2, 0), 9);
+        x.put(0);
+        x.put(1);
         Due.mind(x, 2, "price place*7+3;");
-        due.is("places from 0", x.cheapest(2, 0), 13);
+        due.is("places from 0", x.cheapest(2, 0), 30);
     }
 
     private static void cheapest() {
@@ -619,11 +653,31 @@ public final class PromiseTest {
         widthsAre(x, 3, 2, 3);
         Due.mind(x, 3, "try 3-edges;twin 1;");
         widthsAre(x, 3, 3, 2);
-        Due.mind(x, 3, "try edges*(0);");
+        edges(6, 0b110100, 2, 3, 3 - 3);
+        edges(6, 0b110000, 2, 3, 2 - 3);
+        edges(6, 0b000011, 2, 3, 2 - 3);
+        edges(6, 0b101010, 2, 3, 3 - 7);
+        edges(6, 0b100100, 2, 3, 5 - 2);
+        edges(6, 0b111000, 2, 3, 3 - 3);
+        edges(6, 0b011110, 2, 3, 4 - 4);
+        edges(15, 0b111110000011111, 3, 5, 8 - 10);
+        x.bits(0, 0);
+        x.bits(0b010101, 6);
         Due.mind(x, 3, "try 0-edges*2-width*8+far*4;");
         widthsAre(x, 3, 3, 2);
         Due.mind(x, 3, "try 5+kind+cost+left+worn+other+place+twice+bare;");
         widthsAre(x, 3, 2, 3);
+    }
+
+    /** How many more edges the lesser of two WIDTHS has: twice that, and no less, lets it come first. */
+    private static void edges(int n, int row, int lesser, int greater, int more) {
+        GoldPlate x = new GoldPlate();
+        x.bits(row, n);
+        for (int by = 2 * more - 1; by <= 2 * more; by++) {
+            String times = (by < 0 ? "-" : "+") + "width*" + Math.abs(by);
+            Due.mind(x, 0, "try edges*" + 2 * (greater - lesser) + times + ";");
+            due.is("edges of " + row + times, x.widths(0, 1), by == 2 * more ? lesser : greater);
+        }
     }
 
     private static void laid() {
@@ -863,6 +917,11 @@ public final class PromiseTest {
         y.hard(0, 1);
         due.is("950 and some", y.deeper(0, 998), 0);
         due.is("999 at most", y.deeper(0, 999), NONE);
+        GoldPlate z = new GoldPlate();
+        z.mark(0, 0, 1, 0, 0);
+        due.is("what never was", z.deeper(0, 999), 0);
+        due.is("year above", z.deeper(0, 1000), NONE);
+        due.is("year below", z.deeper(0, -1), NONE);
         y.mark(1, 0, 1, 999, 0);
         due.is("things, not marks, are counted", y.deeper(0, 998), NONE);
     }
@@ -962,6 +1021,10 @@ public final class PromiseTest {
             x.put(i);
         }
         due.is("eleven marks", x.ours(0), NONE);
+        x.put(NONE);
+        putAll(x, 10);
+        x.trial(0x55555);
+        due.is("ten marks", x.ours(1), 1023);
         GoldPlate y = plain(2);
         y.put(1);
         y.trial(1);
