@@ -1246,14 +1246,15 @@ public final class GoldPlate {
         }
     }
 
-    /** Tries the sets of the first twelve MARKS, mark by mark, for several MINDS at once. */
+    /** Tries the sets of the first twelve MARKS, each grown by greater MARKS, for several MINDS at once. */
     private static final class Chooser {
         static final int MOST = 12;
 
         private final Plate plate;
         private final Mind[] minds;
+        /** Of each MIND that is asked: the MARKS that it could take RIGHT but for their NEEDS. */
         private final int[] able = new int[MINDS];
-        /** For each depth of the walk and each MIND: the RIGHT MARKS, the THINGS TOLD. */
+        /** For each size of a set and each MIND that is asked: the RIGHT MARKS, the THINGS TOLD. */
         private final int[] rights = new int[(MOST + 1) * MINDS];
         private final int[] things = new int[(MOST + 1) * MINDS];
         private int asked;
@@ -1273,17 +1274,20 @@ public final class GoldPlate {
         void findBest(int most, int mindSet, boolean forWorst) {
             size = Math.min(plate.size, MOST);
             budget = most;
-            asked = mindSet;
             worst = forWorst;
             bestSet = 0;
             bestCost = 0;
             bestScore = NONE;
+            asked = 0;
             for (int k = 0; k < MINDS; k++) {
-                able[k] = ableMarks(minds[k]);
-                rights[k] = 0;
-                things[k] = 0;
+                if ((mindSet >> k & 1) == 1) {
+                    able[asked] = ableMarks(minds[k]);
+                    rights[asked] = 0;
+                    things[asked] = 0;
+                    asked++;
+                }
             }
-            choose(0, 0, 0);
+            grow(0, 0, 0, 0);
         }
 
         private int ableMarks(Mind mind) {
@@ -1296,41 +1300,35 @@ public final class GoldPlate {
             return set;
         }
 
-        private void choose(int mark, int set, int cost) {
-            if (mark >= size) {
-                judge(set, cost);
-                return;
-            }
-            carry(mark, false);
-            choose(mark + 1, set, cost);
-            int dearer = cost + plate.marks[mark].cost;
-            // A MARK that is RIGHT for none costs for nothing: the set without it is better.
-            if (dearer <= budget && carry(mark, true)) {
-                choose(mark + 1, set | 1 << mark, dearer);
+        /** Judges a set of so many MARKS, then all that have it and more from a MARK on. */
+        private void grow(int count, int from, int set, int cost) {
+            judge(count, set, cost);
+            for (int mark = from; mark < size && count < MOST; mark++) {
+                int dearer = cost + plate.marks[mark].cost;
+                // A MARK that is RIGHT for none costs for nothing: the set without it is better.
+                if (dearer <= budget && gains(count, mark)) {
+                    grow(count + 1, mark + 1, set | 1 << mark, dearer);
+                }
             }
         }
 
-        /** What is told goes one deeper, with the MARK or without; whether any MIND gains it. */
-        private boolean carry(int mark, boolean with) {
+        /** Tells what is told with one MARK more; whether any MIND takes that one RIGHT. */
+        private boolean gains(int count, int mark) {
+            Mark more = plate.marks[mark];
             boolean gained = false;
-            for (int k = 0; k < MINDS; k++) {
-                int here = mark * MINDS + k;
+            for (int k = 0; k < asked; k++) {
+                int here = count * MINDS + k;
                 int next = here + MINDS;
-                rights[next] = rights[here];
-                things[next] = things[here];
-                boolean right = with && (asked >> k & 1) == 1 && (able[k] >> mark & 1) == 1
-                        && (plate.marks[mark].needs & ~rights[here]) == 0;
-                if (right) {
-                    rights[next] |= 1 << mark;
-                    things[next] |= 1 << plate.marks[mark].thing;
-                    gained = true;
-                }
+                boolean right = (able[k] >> mark & 1) == 1 && (more.needs & ~rights[here]) == 0;
+                rights[next] = rights[here] | (right ? 1 << mark : 0);
+                things[next] = things[here] | (right ? 1 << more.thing : 0);
+                gained |= right;
             }
             return gained;
         }
 
-        private void judge(int set, int cost) {
-            int score = scoreNow();
+        private void judge(int count, int set, int cost) {
+            int score = scoreOf(count);
             boolean better = score > bestScore || score == bestScore
                     && (cost < bestCost || cost == bestCost && set < bestSet);
             if (better) {
@@ -1340,15 +1338,13 @@ public final class GoldPlate {
             }
         }
 
-        private int scoreNow() {
+        private int scoreOf(int count) {
             int sum = 0;
             int least = MARKS;
-            for (int k = 0; k < MINDS; k++) {
-                if ((asked >> k & 1) == 1) {
-                    int told = Integer.bitCount(things[size * MINDS + k]);
-                    sum += told;
-                    least = Math.min(least, told);
-                }
+            for (int k = 0; k < asked; k++) {
+                int told = Integer.bitCount(things[count * MINDS + k]);
+                sum += told;
+                least = Math.min(least, told);
             }
             return worst ? least : sum;
         }
@@ -1527,8 +1523,9 @@ public final class GoldPlate {
             yearCount = 0;
             firstYear = NONE;
             lastYear = NONE;
-            for (int year = 0; year < YEARS && anyFound(); year++) {
-                if (fitsAll(year)) {
+            boolean any = anyFound();
+            for (int year = 0; year < YEARS; year++) {
+                if (any && fitsAll(year)) {
                     firstYear = yearCount == 0 ? year : firstYear;
                     lastYear = year;
                     yearCount++;
@@ -1547,13 +1544,17 @@ public final class GoldPlate {
 
         private boolean fitsAll(int year) {
             for (int i = 0; i < size; i++) {
-                long more = (long) periods[i] * slowers[i] * year / 1000000;
-                long period = periods[i] + more;
-                if (from[i] != NONE && (period < from[i] || period > to[i])) {
+                if (from[i] != NONE && !fits(i, year)) {
                     return false;
                 }
             }
             return true;
+        }
+
+        private boolean fits(int beat, int year) {
+            long more = (long) periods[beat] * slowers[beat] * year / 1000000;
+            long period = periods[beat] + more;
+            return period >= from[beat] && period <= to[beat];
         }
 
         void countPlaces(int doubt) {

@@ -25,6 +25,7 @@ public final class PromiseTest {
         readings();
         takings();
         prices();
+        pricesBehind();
         cheapest();
         falls();
         alone();
@@ -502,6 +503,30 @@ public final class PromiseTest {
         due.is("places from 0", x.cheapest(2, 0), 30);
     }
 
+    /** What is dearer twice, or cheaper, at a place behind: the walk must not be cut off by it. */
+    private static void pricesBehind() {
+        GoldPlate x = plain(2);
+        x.tell(0, 2, 14);
+        x.tell(1, 2, 15);
+        putAll(x, 2);
+        Due.mind(x, 0, "price 3 when other=1 and twice=1;price 0 when other=1;price 2;");
+        due.is("two others", x.cheapest(0, 0), 0);
+        due.is("both up to it", x.readings(0, 0), 1);
+        x.tell(1, 2, 14);
+        due.is("one other", x.cheapest(0, 0), 2);
+        Due.mind(x, 0, "price 0 when other=1 and twice=1;price 3 when other=1;price 2;");
+        due.is("an other twice", x.cheapest(0, 0), 3);
+        Due.mind(x, 0, "price 0 when bare=0 and other=0 and twice=0;price 2;");
+        due.is("right once", x.cheapest(0, 0), 0);
+        GoldPlate y = new GoldPlate();
+        y.mark(0, 3, 1, 1, 0);
+        y.mark(0, 3, 1, 1, 0);
+        putAll(y, 2);
+        Due.mind(y, 0, "price 0 when twice=1;price 3-bare;");
+        due.is("right twice", y.cheapest(0, 0), 3);
+        due.is("up to it", y.readings(0, 3), 1);
+    }
+
     private static void cheapest() {
         GoldPlate x = plain(11);
         due.is("empty: price", x.cheapest(0, 0), 0);
@@ -645,7 +670,9 @@ public final class PromiseTest {
                 && ranks[x.widths(1, 2)] <= ranks[x.widths(1, 3)] && ranks[x.widths(1, 3)] <= ranks[x.widths(1, 4)]);
         x.bits(0, 0);
         x.bits(0, 15);
-        Due.mind(x, 2, "try prime*7-width;price 4;");
+        Due.mind(x, 2, "try 7-width*prime;price 4;");
+        widthsAre(x, 2, 5, 3);
+        Due.mind(x, 2, "try width*prime*2-width*3;");
         widthsAre(x, 2, 5, 3);
         x.bits(0, 0);
         x.bits(0b010101, 6);
