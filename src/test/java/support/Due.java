@@ -4,12 +4,18 @@ import java.nio.charset.StandardCharsets;
 final class Due {
     private int asked = 0;
     private int wrong = 0;
+    private String sentence = "";
+
+    /** What the document says, word for word, and the answers that come next rest on. */
+    void says(String words) {
+        sentence = '"' + words + "\": ";
+    }
 
     void is(String call, long got, long want) {
         asked++;
         if (got != want) {
             wrong++;
-            System.out.println(call + " answered " + got + ", due is " + want);
+            System.out.println(sentence + call + " answered " + got + ", due is " + want);
         }
     }
 
