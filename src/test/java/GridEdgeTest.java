@@ -18,7 +18,10 @@ public final class GridEdgeTest {
         widthsByFar();
         widthsByEdges();
         edgesOfBothHands();
+        edgesAreCounted();
+        unitsOfTry();
         widthsWrapAndOthers();
+        othersAreZeroAfterAPrice();
         widthsWrong();
         laidByHand();
         half();
@@ -274,6 +277,86 @@ public final class GridEdgeTest {
             for (int i = 0; i <= x.widths(0, 0); i++) {
                 due.is(bits + ", the " + i + "th", x.widths(1, i), x.widths(0, i));
             }
+        }
+    }
+
+    /** The WIDTH whose unit is nearest to a number comes first: so each WIDTH's unit shows, not just their order. */
+    private static void unitsAre(String bits, String unit, int... values) {
+        GoldPlate x = new GoldPlate();
+        write(x, 0, bits);
+        int[] widths = new int[values.length];
+        int count = 0;
+        for (int w = 2; w <= bits.length() / 2; w++) {
+            if (bits.length() % w == 0) {
+                widths[count] = w;
+                count++;
+            }
+        }
+        due.is("WIDTHS of " + bits, count, values.length);
+        for (int v = 0; v <= 40; v++) {
+            Due.mind(x, 0, "try " + unit + "*" + unit + "-2*" + v + "*" + unit + "+" + v + "*" + v + ";");
+            int nearest = 0;
+            for (int i = 1; i < count; i++) {
+                nearest = Math.abs(values[i] - v) < Math.abs(values[nearest] - v) ? i : nearest;
+            }
+            due.is(unit + " nearest to " + v + " of " + bits, x.widths(0, 1), widths[nearest]);
+        }
+    }
+
+    private static void edgesAreCounted() {
+        due.says("edges: how many neighbours are unlike: none, one corner, all");
+        GoldPlate none = zeros(12);
+        Due.mind(none, 0, "try 0-edges*width;");
+        widthsAre(none, 0, 2, 3, 4, 6);
+        // The last bit has one to the left and one above, whatever the WIDTH is.
+        GoldPlate last = new GoldPlate();
+        write(last, 0, "000000000001");
+        Due.mind(last, 0, "try edges*width-width*2;");
+        widthsAre(last, 0, 2, 3, 4, 6);
+        Due.mind(last, 0, "try width*2-edges*width;");
+        widthsAre(last, 0, 2, 3, 4, 6);
+        GoldPlate first = new GoldPlate();
+        write(first, 0, "100000000000");
+        Due.mind(first, 0, "try edges*width-width*2;");
+        widthsAre(first, 0, 2, 3, 4, 6);
+        Due.mind(first, 0, "try width*2-edges*width;");
+        widthsAre(first, 0, 2, 3, 4, 6);
+    }
+
+    private static void unitsOfTry() {
+        due.says("width, height, prime, edges, far: each by its own number");
+        unitsAre("0".repeat(12), "width", 2, 3, 4, 6);
+        unitsAre("0".repeat(12), "height", 6, 4, 3, 2);
+        unitsAre("0".repeat(12), "far", 4, 1, 1, 4);
+        unitsAre("0".repeat(36), "far", 16, 9, 5, 0, 5, 9, 16);
+        unitsAre("0".repeat(6), "prime", 1, 1);
+        unitsAre("0".repeat(12), "prime", 0, 0, 0, 0);
+        // By 2: rows 11, 00, 10, 01; by 4: rows 1100 and 1001.
+        unitsAre("11001001", "edges", 2 + 2 + 1 + 2, 1 + 2 + 2);
+        GoldPlate x = zeros(12);
+        Due.mind(x, 0, "try far*width;");
+        widthsAre(x, 0, 3, 4, 2, 6);
+        Due.mind(x, 0, "try 9-prime*width;");
+        widthsAre(x, 0, 2, 3, 4, 6);
+    }
+
+    private static void othersAreZeroAfterAPrice() {
+        due.says("(the others 0): whatever PRICES were asked for before");
+        GoldPlate x = zeros(12);
+        x.mark(6, 1, 99, 999, 0);
+        x.mark(5, 1, 98, 999, 0);
+        x.tell(1, 2, 2);
+        x.put(0);
+        x.put(1);
+        x.hard(5, 99);
+        x.year(8);
+        Due.mind(x, 1, "price 1;");
+        for (String unit : new String[] {"kind", "cost", "left", "worn", "other", "place", "twice", "bare"}) {
+            Due.mind(x, 0, "try 0-" + unit + "*width;");
+            due.is("a PRICE", x.cheapest(1, 0), 2);
+            widthsAre(x, 0, 2, 3, 4, 6);
+            due.is("READINGS", x.readings(1, 1), 0);
+            due.is(unit + ": the first", x.widths(0, 1), 2);
         }
     }
 

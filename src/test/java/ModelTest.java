@@ -2,8 +2,9 @@ import java.util.Random;
 
 /** Long runs of calls by chance (the same each time) on the class and on the model, call by call. */
 public final class ModelTest {
-    private static final int RUNS = 400;
-    private static final int CALLS = 512;
+    private static final int RUNS = 1000;
+    /** What calls behind the 512th answer is free; one step of a run seldom makes more than 60 calls. */
+    private static final int CALLS = 380;
     private static final Due due = new Due();
     private static final String[] WORDS = {"sense", "know", "twin", "price", "try", "when", "or", "and", "not", ";",
         "+", "-", "*", "/", "(", ")", "<", "=", ">", "0", "1", "2", "12345", "x", "?", " ", "\n", "\t", "Far", "bare"};
@@ -13,6 +14,7 @@ public final class ModelTest {
     private final Model m = new Model();
     private final int run;
     private final int longest;
+    private int calls = 0;
 
     private ModelTest(int run) {
         this.run = run;
@@ -25,7 +27,7 @@ public final class ModelTest {
         for (int run = 0; run < RUNS; run++) {
             ModelTest t = new ModelTest(run);
             t.setUp();
-            for (int i = 0; i < CALLS; i++) {
+            while (t.calls < CALLS) {
                 t.step();
             }
         }
@@ -55,6 +57,7 @@ public final class ModelTest {
     }
 
     private void same(String call, int got, int want) {
+        calls++;
         due.is("run " + run + ": " + call, got, want);
     }
 
@@ -351,7 +354,7 @@ public final class ModelTest {
         int k = near(0, 5);
         int width = near(1, 12);
         int what = near(0, 1);
-        if (below(2) == 0) {
+        if (below(2) == 0 && calls + m.bits.size() < CALLS) {
             // A grid that is HALF, or nearly, by its first width.
             x.grid(0, 0);
             m.grid(0, 0);

@@ -13,13 +13,18 @@ public final class ReadingEdgeTest {
         knowsOfAMark();
         othersNeedNothing();
         firstPriceLine();
+        sixteenPriceLines();
         priceOfEachUnit();
+        othersAreZeroAfterATry();
         leftAndWorn();
         twice();
         twiceOfBare();
+        twiceAndRight();
+        twiceInReadings();
         priceOfAReading();
         upToAPrice();
         readingsSpent();
+        readingsOneAfterAnother();
         readingsWrong();
         ofSeveralTheFirst();
         moreThanTen();
@@ -150,6 +155,16 @@ public final class ReadingEdgeTest {
         }
     }
 
+    private static void sixteenPriceLines() {
+        due.says("0 without one: sixteen price lines, of which the last, or none, is so");
+        GoldPlate x = row(1);
+        due.is("lines", Due.mind(x, 0, "price 7 when 1=2;".repeat(16)), 16);
+        due.is("none is so", x.cheapest(0, 0), 0);
+        due.is("both READINGS", x.readings(0, 0), 2);
+        due.is("lines", Due.mind(x, 0, "price 7 when 1=2;".repeat(15) + "price 6 when 1=1;"), 16);
+        due.is("the last is so", x.cheapest(0, 0), 6);
+    }
+
     /** The price of one TAKING at the last place: all others cost 999. */
     private static int priceOf(GoldPlate x, int size, String claim, String price) {
         Due.mind(x, 0, "price 0 when not place=" + (size - 1) + ";price " + price + " when " + claim + ";price 999;");
@@ -186,6 +201,22 @@ public final class ReadingEdgeTest {
         x.put(9);
         Due.mind(x, 0, "price place+3;");
         due.is("first", x.cheapest(0, 0), 3);
+    }
+
+    private static void othersAreZeroAfterATry() {
+        due.says("The others are 0: whatever WIDTHS were tried before");
+        GoldPlate x = row(1);
+        // By 3 and by 5, which are prime, with edges.
+        x.bits(0b101100111000110, 15);
+        Due.mind(x, 1, "try width+height+prime+edges+far;");
+        for (String unit : new String[] {"width", "height", "prime", "edges", "far"}) {
+            Due.mind(x, 0, "price 7+" + unit + "*9;");
+            due.is("two WIDTHS", x.widths(1, 0), 2);
+            due.is(unit + ", by the PRICE", x.cheapest(0, 0), 7);
+            due.is("the last WIDTH", x.widths(1, 2) == NONE ? 1 : 0, 0);
+            due.is(unit + ", up to 6", x.readings(0, 6), 0);
+            due.is(unit + ", up to 7", x.readings(0, 7), 2);
+        }
     }
 
     private static void leftAndWorn() {
@@ -263,6 +294,38 @@ public final class ReadingEdgeTest {
         takings(x, 0, 0, 1);
     }
 
+    private static void twiceAndRight() {
+        due.says("other 1 for 2, 3: 0 for RIGHT, twice or not");
+        GoldPlate x = new GoldPlate();
+        x.mark(0, 3, 1, 1, 0);
+        x.mark(0, 3, 1, 1, 0);
+        x.put(0);
+        x.put(1);
+        Due.mind(x, 0, "price 99 when bare=1;price 5+other*50 when twice=1;price 1;");
+        due.is("RIGHT and twice", x.cheapest(0, 0), 6);
+        takings(x, 0, 1, 1);
+        x.tell(1, 2, 4);
+        x.tell(0, 2, 4);
+        Due.mind(x, 0, "price 99 when bare=1;price 9 when twice=0 and place=1;price 5-other*3 when twice=1;price 1;");
+        due.is("an OTHER and twice", x.cheapest(0, 0), 3);
+        takings(x, 0, 2, 2);
+    }
+
+    private static void twiceInReadings() {
+        due.says("twice, in READINGS up to a PRICE: nothing stands ahead of the first");
+        for (int thing = 0; thing < 16; thing++) {
+            GoldPlate x = new GoldPlate();
+            x.mark(0, thing, 1, 1, 0);
+            x.mark(0, thing, 1, 1, 0);
+            x.put(0);
+            Due.mind(x, 0, "price twice*9;");
+            due.is("THING " + thing + " at the first place", x.readings(0, 8), 2);
+            x.put(1);
+            due.is("THING " + thing + " up to 8: not both RIGHT", x.readings(0, 8), 3);
+            due.is("THING " + thing + " up to 9", x.readings(0, 9), 4);
+        }
+    }
+
     private static void priceOfAReading() {
         due.says("The PRICE of a READING: all of these added");
         GoldPlate x = row(10);
@@ -318,6 +381,36 @@ public final class ReadingEdgeTest {
         due.is("none", y.readings(0, 69), 0);
         due.is("one and twenty", y.readings(0, 71), 21);
         due.is("its PRICE", y.cheapest(0, 0), 70);
+    }
+
+    private static void readingsOneAfterAnother() {
+        due.says("READINGS and THE CHEAPEST of a MIND: whatever another MIND or another message was asked before");
+        for (int size = 0; size <= 10; size++) {
+            GoldPlate x = row(10);
+            Due.mind(x, 0, "price 999;");
+            Due.mind(x, 1, "price bare*2;");
+            due.is("ten, dear", x.readings(0, 9989), 0);
+            due.is("ten, dear", x.cheapest(0, 0), 9990);
+            x.put(NONE);
+            for (int i = 0; i < size; i++) {
+                x.put(i);
+            }
+            due.is("dear again", x.cheapest(0, 0), 999 * size);
+            due.is("cheap: just one for nothing", x.readings(1, 0), 1);
+            due.is("cheap: one of them bare", x.readings(1, 2), 1 + size);
+            due.is("dear again", x.readings(0, 9999), 1 << size);
+            due.is("cheap", x.cheapest(1, 0), 0);
+            due.is("all RIGHT", x.cheapest(1, 1), NONE);
+            for (int place = 0; place < size; place++) {
+                // One place is dear for one MIND, and for nothing for the other.
+                Due.mind(x, 2, "price 999 when place=" + place + ";price 0;");
+                Due.mind(x, 3, "price 5*bare when place=" + place + ";price 0;");
+                due.is("place " + place + " dear", x.readings(2, 998), 0);
+                due.is("place " + place + " cheap", x.cheapest(3, 10 + place), 1);
+                due.is("place " + place + " dear", x.cheapest(2, 0), 999);
+                due.is("place " + place + " cheap", x.readings(3, 0), 1 << (size - 1));
+            }
+        }
     }
 
     private static void readingsWrong() {

@@ -10,6 +10,7 @@ public final class SetEdgeTest {
         toldWrong();
         bestCostsNoMore();
         bestCountsEachMind();
+        bestNeedsStand();
         bestCheapestThenLeast();
         bestEmptySet();
         bestOfTheFirstTwelve();
@@ -30,6 +31,7 @@ public final class SetEdgeTest {
         oursOfAllTrials();
         oursOfTheSameMessage();
         oursAndMinds();
+        oursOfOnePlace();
         oursWrong();
         due.close();
     }
@@ -77,6 +79,16 @@ public final class SetEdgeTest {
         y.hard(1, 5);
         y.year(1);
         due.is("GONE", y.told(0, 3), 0);
+        for (int gone = 0; gone < 7; gone++) {
+            GoldPlate z = new GoldPlate();
+            for (int i = 0; i < 7; i++) {
+                z.mark(i, i, 1, 5, 0);
+            }
+            z.hard(gone, 5);
+            z.year(1);
+            due.is("just " + gone + " is GONE", z.told(0, 127), 127 - (1 << gone));
+            due.is(gone + " by itself", z.told(0, 1 << gone), 0);
+        }
     }
 
     private static void toldWrong() {
@@ -144,6 +156,30 @@ public final class SetEdgeTest {
         bestIs(x, 2, 63, 6, 8);
         bestIs(x, 3, 63, 7, 2 * 1 + 3 * 2 + 2);
         bestIs(x, 9, 32, 3, 2);
+    }
+
+    private static void bestNeedsStand() {
+        due.says("TOLD: MARKS that it could take RIGHT, if just these stood in a row: of each MIND its own");
+        GoldPlate x = new GoldPlate();
+        x.mark(0, 0, 50, 9, 0);
+        x.mark(0, 1, 1, 9, 1);
+        x.mark(0, 2, 1, 9, 0);
+        x.tell(2, 0, 1);
+        Due.mind(x, 0, "sense 0;");
+        // What 2 needs is too dear, whatever MIND 1 lacks for MARK 1.
+        bestIs(x, 10, 3, 2, 1);
+        bestIs(x, 50, 3, 1, 2);
+        bestIs(x, 51, 3, 5, 4);
+        bestIs(x, 52, 3, 7, 5);
+        worstIs(x, 10, 3, 0, 0);
+        worstIs(x, 50, 3, 1, 1);
+        worstIs(x, 52, 3, 5, 2);
+        x.tell(2, 0, 2);
+        // MIND 0 alone has what 2 needs.
+        bestIs(x, 10, 3, 6, 2);
+        worstIs(x, 10, 3, 0, 0);
+        bestIs(x, 10, 2, 0, 0);
+        bestIs(x, 10, 1, 6, 2);
     }
 
     private static void bestCheapestThenLeast() {
@@ -615,6 +651,21 @@ public final class SetEdgeTest {
         due.is("now neither can", x.ours(33), 63);
         x.put(NONE);
         due.is("no MESSAGE", x.ours(63), 0);
+    }
+
+    private static void oursOfOnePlace() {
+        due.says("none does in THE CHEAPEST: where just one MARK was taken RIGHT by all TRIALS");
+        for (int place = 0; place < 10; place++) {
+            GoldPlate x = plain(10);
+            putAll(x, 10);
+            x.trial(1 << 2 * place);
+            Due.mind(x, 5, "price bare when place=" + place + ";price 1-bare;");
+            Due.mind(x, 4, "price 1-bare when place=" + place + ";price bare;");
+            due.is("no MIND, place " + place, x.ours(0), 1 << place);
+            due.is("a MIND that takes just this one RIGHT", x.ours(32), 0);
+            due.is("a MIND that takes just the others RIGHT", x.ours(16), 1 << place);
+            due.is("both", x.ours(48), 0);
+        }
     }
 
     private static void oursWrong() {

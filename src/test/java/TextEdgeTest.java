@@ -14,7 +14,9 @@ public final class TextEdgeTest {
         end();
         mindEmptiesTheTape();
         mindIsReplaced();
+        mindIsToldAnew();
         mindStays();
+        nothingOfAFaultyText();
         mindNoSuch();
         mindsAreEmptyAtFirst();
         faultAnswers();
@@ -22,6 +24,7 @@ public final class TextEdgeTest {
         grammar();
         keywords();
         numbers();
+        cutWithinAToken();
         everyByte();
         blanks();
         firstByItsPlace();
@@ -150,11 +153,14 @@ public final class TextEdgeTest {
 
     private static final String WHOLE = "sense 2;know 5;twin 1;price 7;try height;";
 
-    /** A plate that shows each line of WHOLE: MARK 0 needs sense 2 and fact 5. */
+    /** A plate that shows each line of WHOLE: MARK 0 needs sense 2 and fact 5, MARKS 1 and 2 just one of them. */
     private static GoldPlate shown() {
         GoldPlate x = new GoldPlate();
         x.mark(0, 0, 1, 1, 4);
         x.tell(0, 1, 32);
+        x.mark(0, 1, 1, 1, 4);
+        x.mark(0, 2, 1, 1, 0);
+        x.tell(2, 1, 32);
         x.put(0);
         x.bits(0b100000, 6);
         x.grid(0b100000, 6);
@@ -163,6 +169,8 @@ public final class TextEdgeTest {
 
     private static void showsWhole(GoldPlate x, int k) {
         due.is("sense and know", x.alone(k, 0), 1);
+        due.is("sense", x.alone(k, 1), 1);
+        due.is("know", x.alone(k, 2), 1);
         due.is("twin", x.laid(k, 3, 0), 4);
         due.is("price", x.cheapest(k, 0), 7);
         due.is("try", x.widths(k, 1), 3);
@@ -170,6 +178,8 @@ public final class TextEdgeTest {
 
     private static void showsEmpty(GoldPlate x, int k) {
         due.is("sense and know", x.alone(k, 0), 0);
+        due.is("sense", x.alone(k, 1), 0);
+        due.is("know", x.alone(k, 2), 0);
         due.is("twin", x.laid(k, 3, 0), 6);
         due.is("price", x.cheapest(k, 0), 0);
         due.is("try", x.widths(k, 1), 2);
@@ -189,6 +199,48 @@ public final class TextEdgeTest {
         due.is("twin and try may come again in another TEXT", Due.mind(x, 4, "try 1;twin 0;"), 2);
         due.is("once more", Due.mind(x, 4, WHOLE), 5);
         showsWhole(x, 4);
+    }
+
+    private static void mindIsToldAnew() {
+        due.says("The TAPE is MIND k: nothing stays of what it was, however often it is told");
+        for (int k = 0; k < 6; k++) {
+            GoldPlate x = shown();
+            for (int times = 1; times <= 3; times++) {
+                for (int i = 0; i < times; i++) {
+                    due.is("MIND " + k, Due.mind(x, k, WHOLE), 5);
+                }
+                due.is("empty", Due.mind(x, k, ""), 0);
+                showsEmpty(x, k);
+                due.is("empty again", Due.mind(x, k, ""), 0);
+                showsEmpty(x, k);
+            }
+        }
+        due.says("fewer lines than before, a shorter sum than before");
+        GoldPlate x = shown();
+        for (int i = 0; i < 3; i++) {
+            due.is("long", Due.mind(x, 0, "price 1 when 1=2;price 2 when 1=2;price 3;try 0-1-1-1-1-width;"), 4);
+            due.is("long", x.cheapest(0, 0), 3);
+            due.is("long", x.widths(0, 1), 3);
+            due.is("short", Due.mind(x, 0, "price 9 when 1=2;try width;"), 2);
+            due.is("no price line is so", x.cheapest(0, 0), 0);
+            due.is("the new try", x.widths(0, 1), 2);
+        }
+    }
+
+    private static void nothingOfAFaultyText() {
+        due.says("NONE: a FAULT: nothing of that TEXT comes into the next");
+        GoldPlate x = shown();
+        for (String fault : new String[] {"sense 4;", "?", "twin 0;", "price 1/0;", "know"}) {
+            due.is("a FAULT", Due.mind(x, 0, WHOLE + fault), NONE);
+            due.is("an empty one", Due.mind(x, 0, ""), 0);
+            showsEmpty(x, 0);
+            due.is("a FAULT", Due.mind(x, 0, WHOLE + fault), NONE);
+            due.is("twin and try may come in the next", Due.mind(x, 0, "twin 0;try 0;"), 2);
+            showsEmpty(x, 0);
+            due.is("a FAULT in the 16th line", Due.mind(x, 0, "know 5;".repeat(15) + "know 9;"), NONE);
+            due.is("sixteen may come in the next", Due.mind(x, 0, "know 0;".repeat(16)), 16);
+            showsEmpty(x, 0);
+        }
     }
 
     private static void mindStays() {
@@ -370,6 +422,41 @@ public final class TextEdgeTest {
         due.is("letters behind digits", worked("price 2*3when1=1;"), 6);
     }
 
+    /** A text of which just the first bytes are left: what stood behind them is no part of it. */
+    private static void cut(String text, int length, int lines, int what, int place) {
+        GoldPlate x = new GoldPlate();
+        Due.write(x, text);
+        due.yes("end of '" + text + "'", x.end(length));
+        due.is("mind of '" + text + "', cut", x.mind(0), lines);
+        due.is("FAULT of '" + text + "', cut", x.fault(0), what);
+        due.is("its place in '" + text + "', cut", x.fault(1), place);
+    }
+
+    private static void cutWithinAToken() {
+        due.says("The TAPE has its first n bytes alone: a TOKEN that is cut ends there");
+        cut("sense 33;", 7, NONE, 1, 7);
+        cut("know 1;know", 7, 1, 0, NONE);
+        cut("senses 1;", 5, NONE, 1, 5);
+        cut("sense 1;", 4, NONE, 1, 0);
+        cut("price 12345;", 10, NONE, 1, 10);
+        cut("price kinds;", 10, NONE, 1, 10);
+        due.says("what was on the TAPE before is no part of the TEXT");
+        GoldPlate x = new GoldPlate();
+        due.is("long", Due.mind(x, 0, "know 7;know 7;know 7;"), 3);
+        due.is("short", Due.mind(x, 0, "know 7"), NONE);
+        due.is("at the end", x.fault(1), 6);
+        Due.mind(x, 0, "999999999999");
+        due.is("digits behind it", Due.mind(x, 0, "know 7"), NONE);
+        due.is("a NUMBER of one digit", x.fault(0), 1);
+        due.is("and the end", x.fault(1), 6);
+        due.says("the 500th byte is the last of a TOKEN");
+        faulty("try 1" + "+1".repeat(247) + "1", 1, 500);
+        faulty("try 1+" + " ".repeat(490) + "1111", 1, 500);
+        faulty("try 1+" + " ".repeat(490) + "kind", 1, 500);
+        faulty("try 1+" + " ".repeat(490) + "kins", 1, 496);
+        fine(" ".repeat(494) + "try 1;", 1);
+    }
+
     private static boolean isLetter(int c) {
         return c >= 'a' && c <= 'z' || c >= 'A' && c <= 'Z';
     }
@@ -540,6 +627,9 @@ public final class TextEdgeTest {
         due.is("2*7/2", worked("price 2*7/2;"), 7);
         due.is("100/3/3", worked("price 100/3/3;"), 11);
         due.is("8-7/2", worked("price 8-7/2;"), 5);
+        due.is("8-7/1", worked("price 8-7/1;"), 1);
+        due.is("1+6/1*2", worked("price 1+6/1*2;"), 13);
+        due.is("3+8/2/1-1", worked("price 3+8/2/1-1;"), 6);
         due.says("Ints, which wrap");
         due.yes("above the most", holds("9999*9999*22<0"));
         due.yes("all round", holds("8192*8192*64=0"));
@@ -588,6 +678,17 @@ public final class TextEdgeTest {
         check("1+1=2", true);
         check("2=1+1", true);
         check("3-1*2>0", true);
+        due.says("C = E (< | = | >) E: a sum on either side, so or not");
+        String[] sums = {"1", "3", "1+1", "2+1", "4-1", "4-1-1", "1*3", "6/2", "1+2*1", "5-2*1-0", "0-1", "9/1-6/1"};
+        int[] values = {1, 3, 2, 3, 3, 2, 3, 3, 3, 3, -1, 3};
+        for (int i = 0; i < sums.length; i++) {
+            for (int j = 0; j < sums.length; j++) {
+                check(sums[i] + "<" + sums[j], values[i] < values[j]);
+                check(sums[i] + "=" + sums[j], values[i] == values[j]);
+                check(sums[i] + ">" + sums[j], values[i] > values[j]);
+                check("1=2 or 1=1 and not " + sums[i] + "<" + sums[j], values[i] >= values[j]);
+            }
+        }
     }
 
     private static void check(String claim, boolean want) {
