@@ -309,6 +309,19 @@ public final class MarkEdgeTest {
             due.is("below half of " + h[0], wearOf(h[0], h[1] - 1), 1);
             due.is("all of " + h[0], wearOf(h[0], h[0]), 0);
         }
+        GoldPlate x = sixteen();
+        x.hard(1, 51);
+        x.hard(2, 50);
+        x.hard(3, 100 - 1);
+        x.year(1);
+        int[] wear = {0, 1, 0, 1, 0, 0, 0};
+        for (int m = 0; m < 16; m++) {
+            due.is("each MARK by its own KIND: " + m, x.of(m, 1), wear[m % 7]);
+        }
+        x.year(2);
+        for (int m = 0; m < 16; m++) {
+            due.is("each MARK by its own KIND: " + m, x.of(m, 1), m % 7 >= 1 && m % 7 <= 3 ? 2 : 0);
+        }
         due.is("1 of 2", wearOf(2, 1), 0);
         due.is("1 of 3", wearOf(3, 1), 0);
     }

@@ -21,6 +21,7 @@ public final class SetEdgeTest {
         deeperCounts();
         deeperByAHundred();
         deeperOfSeveral();
+        deeperOfEachMind();
         deeperWrong();
         trialsAsTheyCome();
         trialDigits();
@@ -419,6 +420,31 @@ public final class SetEdgeTest {
         }
         y.hard(1, 1);
         due.is("the last of sixteen", y.deeper(0, 100), 15);
+    }
+
+    private static void deeperOfEachMind() {
+        due.says("NONE if none lets more than are TOLD without: to that MIND");
+        for (int k = 0; k < 6; k++) {
+            GoldPlate x = plain(3);
+            x.mark(1, 9, 1, 50, 0);
+            x.hard(1, 1);
+            for (int i = 0; i < 3; i++) {
+                x.tell(i, 1, 1);
+            }
+            for (int other = 0; other < 6; other++) {
+                Due.mind(x, other, other == k ? "" : "know 0;");
+            }
+            due.is("one where none is told, MIND " + k, x.deeper(k, 50), 3);
+            x.tell(3, 1, 2);
+            due.is("none where none is told", x.deeper(k, 50), NONE);
+            due.is("none where three are told", x.deeper((k + 1) % 6, 50), NONE);
+            Due.mind(x, k, "know 1;");
+            due.is("the fourth, where just it can be told", x.deeper(k, 50), 3);
+            Due.mind(x, k, "know 0;know 1;");
+            due.is("the fourth, where three are told", x.deeper(k, 50), 3);
+            due.is("all four are told", x.deeper(k, 49), NONE);
+            due.is("the others lack the FACT", x.deeper((k + 1) % 6, 50), NONE);
+        }
     }
 
     private static void deeperWrong() {

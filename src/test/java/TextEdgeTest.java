@@ -666,6 +666,12 @@ public final class TextEdgeTest {
             check("(" + a + " or " + b + ") and " + c, (p || q) && r);
             check(a + " and (" + b + " or " + c + ")", p && (q || r));
             check("not " + a + " and " + b + " or " + c, !p && q || r);
+            check(a + " and (" + b + ")", p && q);
+            check("(" + a + ") and ((" + b + ")) and (" + c + ")", p && q && r);
+            check("(" + a + ") or (" + b + " and (" + c + "))", p || q && r);
+            check(a + " and (" + b + " and " + c + ")", p && q && r);
+            check(a + " and not (" + b + ") and not (" + c + ")", p && !q && !r);
+            check(a + " and (" + b + " and (" + c + " or " + a + "))", p && q);
             check("not (" + a + " and " + b + " or " + c + ")", !(p && q || r));
             check("not not " + a + " or not " + b + " and not " + c, p || !q && !r);
             check(a + " or " + b + " and " + c + " or " + a + " and " + b, p || q && r || p && q);
